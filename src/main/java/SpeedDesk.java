@@ -155,7 +155,7 @@ public final class SpeedDesk {
             case 0:
                 return chip.clusterOf[core];
             case 1:
-                return state.asleep[core] ? 1 : 0;
+                return bitOf(state.sleepingCores, core);
             case 2:
                 return state.idled[core];
             case 3:
@@ -185,7 +185,7 @@ public final class SpeedDesk {
             case 5:
                 return state.late[task];
             case 6:
-                return state.stopped[task] ? 1 : 0;
+                return bitOf(state.stoppedTasks, task);
             case 7:
                 return shareOf(task);
             default:
@@ -425,9 +425,9 @@ public final class SpeedDesk {
             case 3:
                 return state.lateOfAll(chip);
             case 4:
-                return state.coresAsleep(chip);
+                return state.sleepingCores;
             case 5:
-                return state.tasksStopped(chip);
+                return state.stoppedTasks;
             case 6:
                 return state.tasksWithRest(chip);
             case 7:
@@ -540,15 +540,13 @@ public final class SpeedDesk {
     private int tasksOn(int core) {
         int bits = 0;
         for (int task = 0; task < chip.tasks; task++) {
-            if (state.coreOf[task] == core) {
-                bits |= 1 << task;
-            }
+            bits = withBit(bits, task, state.coreOf[task] == core);
         }
         return bits;
     }
 
     private int shareOf(int task) {
-        return state.stopped[task] ? 0 : chip.shareOf(task);
+        return state.isStopped(task) ? 0 : chip.shareOf(task);
     }
 
     private int sharesOn(int core) {
@@ -628,7 +626,7 @@ public final class SpeedDesk {
     private void drawTaskAct(int what) {
         int task = draw(chip.tasks);
         if (what == 6) {
-            wish.put(chip.hasTask(task) && state.stopped[task] ? START : STOP, task, 0, 0, 0L);
+            wish.put(state.isStopped(task) ? START : STOP, task, 0, 0, 0L);
         } else {
             wish.put(MOVE, task, draw(chip.cores), 0, 0L);
         }
@@ -661,6 +659,17 @@ public final class SpeedDesk {
             return NONE;
         }
         return (int) ((name >>> (8 * (letters - 1 - i))) & 255L);
+    }
+
+    private static int bitOf(int bits, int i) {
+        return i < 0 || i > 31 ? 0 : (bits >>> i) & 1;
+    }
+
+    private static int withBit(int bits, int i, boolean on) {
+        if (i < 0 || i > 31) {
+            return bits;
+        }
+        return on ? bits | (1 << i) : bits & ~(1 << i);
     }
 
     /** The whole number that is no less; both are small and not below 0. */
@@ -879,12 +888,12 @@ public final class SpeedDesk {
         }
 
         private void readRule(Chip draft, int rule) {
-            if (draft.ruleTold[rule]) {
+            if (bitOf(draft.rulesTold, rule) == 1) {
                 tape.refusePart();
                 return;
             }
             int value = tape.readNumber(RULE_LEAST[rule], RULE_MOST[rule]);
-            draft.ruleTold[rule] = true;
+            draft.rulesTold = withBit(draft.rulesTold, rule, true);
             draft.rules[rule] = value;
         }
 
@@ -903,7 +912,8 @@ public final class SpeedDesk {
                 return;
             }
             step.put(sort, 0, 0, 0, sort == ASK || sort == DROP ? tape.readWord() : 0L);
-            for (int i = 0; i < step.numbersTold(); i++) {
+            int count = step.numbersTold();
+            for (int i = 0; i < count && i < step.numbers.length; i++) {
                 step.numbers[i] = sort == TICK ? tape.readNumber(1, MOST_TICKS) : tape.readNumber(0, 9);
             }
         }
@@ -955,6 +965,7 @@ public final class SpeedDesk {
         int tasks;
         int cores;
         int top;
+        int rulesTold;
         final long[] clusterNames = new long[MOST_CLUSTERS];
         final int[] coreCount = new int[MOST_CLUSTERS];
         final int[] idle = new int[MOST_CLUSTERS];
@@ -967,17 +978,14 @@ public final class SpeedDesk {
         final int[] work = new int[MOST_TASKS];
         final int[] period = new int[MOST_TASKS];
         final int[] rules = new int[RULES];
-        final boolean[] ruleTold = new boolean[RULES];
 
         void begin() {
             clusters = 0;
             tasks = 0;
             cores = 0;
             top = 0;
-            for (int rule = 0; rule < RULES; rule++) {
-                rules[rule] = RULE_UNTOLD[rule];
-                ruleTold[rule] = false;
-            }
+            rulesTold = 0;
+            System.arraycopy(RULE_UNTOLD, 0, rules, 0, RULES);
         }
 
         void addCluster(long name, int coresTold, int idleTold, int wakeTold) {
@@ -1158,15 +1166,15 @@ public final class SpeedDesk {
         int energy;
         int logged;
         int asks;
+        int stoppedTasks;
+        int sleepingCores;
         final int[] coreOf = new int[MOST_TASKS];
         final int[] rest = new int[MOST_TASKS];
         final int[] load = new int[MOST_TASKS];
         final int[] late = new int[MOST_TASKS];
-        final boolean[] stopped = new boolean[MOST_TASKS];
         final int[] point = new int[MOST_CLUSTERS];
         final int[] held = new int[MOST_CLUSTERS];
         final int[] boost = new int[MOST_CLUSTERS];
-        final boolean[] asleep = new boolean[MOST_CORES];
         final int[] idled = new int[MOST_CORES];
         // one more than may ask: bound asks in a trial whoever else asks
         final long[] asker = new long[MOST_ASKS + 1];
@@ -1180,12 +1188,13 @@ public final class SpeedDesk {
             energy = 0;
             logged = 0;
             asks = 0;
+            stoppedTasks = 0;
+            sleepingCores = 0;
             for (int task = 0; task < MOST_TASKS; task++) {
                 coreOf[task] = 0;
                 rest[task] = 0;
                 load[task] = 0;
                 late[task] = 0;
-                stopped[task] = false;
             }
             for (int cluster = 0; cluster < MOST_CLUSTERS; cluster++) {
                 point[cluster] = 0;
@@ -1193,7 +1202,6 @@ public final class SpeedDesk {
                 boost[cluster] = 0;
             }
             for (int core = 0; core < MOST_CORES; core++) {
-                asleep[core] = false;
                 idled[core] = 0;
             }
         }
@@ -1204,20 +1212,28 @@ public final class SpeedDesk {
             energy = other.energy;
             logged = other.logged;
             asks = other.asks;
+            stoppedTasks = other.stoppedTasks;
+            sleepingCores = other.sleepingCores;
             System.arraycopy(other.coreOf, 0, coreOf, 0, MOST_TASKS);
             System.arraycopy(other.rest, 0, rest, 0, MOST_TASKS);
             System.arraycopy(other.load, 0, load, 0, MOST_TASKS);
             System.arraycopy(other.late, 0, late, 0, MOST_TASKS);
-            System.arraycopy(other.stopped, 0, stopped, 0, MOST_TASKS);
             System.arraycopy(other.point, 0, point, 0, MOST_CLUSTERS);
             System.arraycopy(other.held, 0, held, 0, MOST_CLUSTERS);
             System.arraycopy(other.boost, 0, boost, 0, MOST_CLUSTERS);
-            System.arraycopy(other.asleep, 0, asleep, 0, MOST_CORES);
             System.arraycopy(other.idled, 0, idled, 0, MOST_CORES);
             System.arraycopy(other.asker, 0, asker, 0, MOST_ASKS + 1);
             System.arraycopy(other.askedCluster, 0, askedCluster, 0, MOST_ASKS + 1);
             System.arraycopy(other.askedLow, 0, askedLow, 0, MOST_ASKS + 1);
             System.arraycopy(other.askedHigh, 0, askedHigh, 0, MOST_ASKS + 1);
+        }
+
+        boolean isStopped(int task) {
+            return bitOf(stoppedTasks, task) == 1;
+        }
+
+        boolean isAsleep(int core) {
+            return bitOf(sleepingCores, core) == 1;
         }
 
         boolean hasAsk(int k) {
@@ -1300,26 +1316,10 @@ public final class SpeedDesk {
             return true;
         }
 
-        int coresAsleep(Chip chip) {
-            int bits = 0;
-            for (int core = 0; core < chip.cores; core++) {
-                bits |= asleep[core] ? 1 << core : 0;
-            }
-            return bits;
-        }
-
-        int tasksStopped(Chip chip) {
-            int bits = 0;
-            for (int task = 0; task < chip.tasks; task++) {
-                bits |= stopped[task] ? 1 << task : 0;
-            }
-            return bits;
-        }
-
         int tasksWithRest(Chip chip) {
             int bits = 0;
             for (int task = 0; task < chip.tasks; task++) {
-                bits |= rest[task] > 0 ? 1 << task : 0;
+                bits = withBit(bits, task, rest[task] > 0);
             }
             return bits;
         }
@@ -1458,7 +1458,7 @@ public final class SpeedDesk {
         private void release(Chip chip, State state) {
             for (int task = 0; task < chip.tasks; task++) {
                 done[task] = 0;
-                if (!state.stopped[task] && ticksLeft(chip, state, task) == chip.period[task]) {
+                if (!state.isStopped(task) && ticksLeft(chip, state, task) == chip.period[task]) {
                     state.late[task] += state.rest[task] > 0 ? 1 : 0;
                     state.rest[task] = chip.work[task];
                 }
@@ -1475,8 +1475,8 @@ public final class SpeedDesk {
             int used = 0;
             for (int task = 0; task < chip.tasks; task++) {
                 int core = state.coreOf[task];
-                if (state.rest[task] > 0 && chip.hasCore(core) && state.asleep[core]) {
-                    state.asleep[core] = false;
+                if (state.rest[task] > 0 && chip.hasCore(core) && state.isAsleep(core)) {
+                    state.sleepingCores = withBit(state.sleepingCores, core, false);
                     used += wakeCluster(chip, state, chip.clusterOf[core]);
                 }
             }
@@ -1528,7 +1528,7 @@ public final class SpeedDesk {
                 left -= part;
             }
             int used = (speed - left) * costOf(chip, state, cluster);
-            if (!state.asleep[core] && chip.hasCluster(cluster)) {
+            if (!state.isAsleep(core) && chip.hasCluster(cluster)) {
                 used += chip.idle[cluster];
             }
             rememberIdling(chip, state, core, left == speed);
@@ -1557,7 +1557,7 @@ public final class SpeedDesk {
         private void rememberIdling(Chip chip, State state, int core, boolean idle) {
             state.idled[core] = idle ? state.idled[core] + 1 : 0;
             if (state.idled[core] >= chip.rules[SLEEP]) {
-                state.asleep[core] = true;
+                state.sleepingCores = withBit(state.sleepingCores, core, true);
             }
         }
 
@@ -1678,7 +1678,7 @@ public final class SpeedDesk {
 
         private void look(Chip chip, State state) {
             for (int task = 0; task < chip.tasks; task++) {
-                share[task] = state.stopped[task] ? 0 : chip.shareOf(task);
+                share[task] = state.isStopped(task) ? 0 : chip.shareOf(task);
             }
             for (int cluster = 0; cluster < chip.clusters; cluster++) {
                 low[cluster] = state.lowOf(cluster);
@@ -1795,20 +1795,16 @@ public final class SpeedDesk {
         private int partOf(Chip chip, State state, int stops, int chance) {
             long part = ALL_PARTS;
             for (int task = 0; task < chip.tasks; task++) {
-                long stoppedPart = state.stopped[task] ? part : part * chance / 100;
-                part = isIn(stops, task) ? stoppedPart : part - stoppedPart;
+                long stoppedPart = state.isStopped(task) ? part : part * chance / 100;
+                part = bitOf(stops, task) == 1 ? stoppedPart : part - stoppedPart;
             }
             return (int) part;
-        }
-
-        private static boolean isIn(int bits, int task) {
-            return ((bits >>> task) & 1) == 1;
         }
 
         private boolean someWayFits(Chip chip, State state, int stops) {
             look(chip, state);
             for (int task = 0; task < chip.tasks; task++) {
-                share[task] = isIn(stops, task) ? 0 : chip.shareOf(task);
+                share[task] = bitOf(stops, task) == 1 ? 0 : chip.shareOf(task);
             }
             int ways = waysOf(chip);
             for (int number = 0; number < ways; number++) {
@@ -1918,7 +1914,7 @@ public final class SpeedDesk {
             if (!chip.hasTask(task)) {
                 return NO_SUCH;
             }
-            return state.stopped[task] == stopping ? NOTHING_TO_DO : NONE;
+            return state.isStopped(task) == stopping ? NOTHING_TO_DO : NONE;
         }
 
         private int settleRefusal(Chip chip, State state) {
@@ -1954,7 +1950,7 @@ public final class SpeedDesk {
             }
             int rest = state.rest[task];
             state.rest[task] = 0;
-            state.stopped[task] = true;
+            state.stoppedTasks = withBit(state.stoppedTasks, task, true);
             return rest;
         }
 
@@ -1962,7 +1958,7 @@ public final class SpeedDesk {
             if (!chip.hasTask(task)) {
                 return NONE;
             }
-            state.stopped[task] = false;
+            state.stoppedTasks = withBit(state.stoppedTasks, task, false);
             return state.time;
         }
 

@@ -126,6 +126,21 @@ public final class ActsTest {
         CHECKS.row("names in order", new int[] {desk.name(2, 0, 0), desk.name(2, 1, 0), desk.name(2, 2, 0), desk.name(2, 3, 0), desk.name(2, 4, 0), desk.name(2, 5, 0)},
             'a', 'b', 'd', 'e', 'f', 'g');
         CHECKS.row("low in order", new int[] {desk.asked(3, 1), desk.asked(4, 1), desk.asked(5, 1)}, 0, 1, 0);
+        int[] six = facts(desk);
+        desk.image();
+        Checks.drop(desk, "g", 0);
+        Checks.drop(desk, "f", 0);
+        Checks.ask(desk, "x", 1, 0, 0);
+        Checks.ask(desk, "y", 0, 0, 0);
+        Checks.ask(desk, "y", 0, 1, 1);
+        for (int i = 0; i < 5; i++) {
+            desk.undo();
+        }
+        CHECKS.row("six asks by undo", facts(desk), six);
+        Checks.drop(desk, "g", 0);
+        Checks.ask(desk, "y", 1, 0, 0);
+        desk.back();
+        CHECKS.row("six asks by back", facts(desk), six);
     }
 
     private static void dropping() {

@@ -93,6 +93,9 @@ public final class TicksTest {
         CHECKS.row("too far", new int[] {desk.tick(40), desk.status(3), desk.tick(39), desk.all(0), desk.tick(1), desk.status(3),
             desk.tick(61), desk.status(1)}, -1, 1, 0, 9999, -1, 2, -1, 5);
         CHECKS.row("ahead of the last time", new int[] {desk.ahead(0, 0), desk.ahead(1, 0), desk.bound(0, 1)}, 0, -1, -1);
+        desk.undo();
+        CHECKS.row("up to the last time", new int[] {desk.all(0), desk.ahead(39, 0), desk.ahead(40, 0), desk.bound(0, 39), desk.bound(0, 40)},
+            9960, 0, -1, 0, -1);
     }
 
     /** hold 2: the point falls one by one, each behind two ticks; loads fade; a core sleeps and wakes. */
