@@ -118,9 +118,12 @@ public final class SpeedDesk {
 
     public int text(int sort) {
         if (sort == 0) {
-            return takeChip();
+            return texts.readChip(draft) == NONE ? takeDraft() : NONE;
         }
-        return sort == 1 ? takeScript() : NONE;
+        if (sort != 1 || scriptCount >= MOST_SCRIPTS) {
+            return NONE;
+        }
+        return texts.readScript(spareScript()) == NONE ? takeSpareScript() : NONE;
     }
 
     public int rule(int what) {
@@ -234,12 +237,12 @@ public final class SpeedDesk {
 
     public int ask(int cluster, int low, int high) {
         wish.put(ASK, cluster, low, high, texts.readAsker());
-        return doOrRefuseAsker(wish);
+        return useUpTapeFor(doOrRefuse(wish));
     }
 
     public int drop(int cluster) {
         wish.put(DROP, cluster, 0, 0, texts.readAsker());
-        return doOrRefuseAsker(wish);
+        return useUpTapeFor(doOrRefuse(wish));
     }
 
     public int stop(int task) {
@@ -495,10 +498,7 @@ public final class SpeedDesk {
         return scripts[Math.min(scriptCount, MOST_SCRIPTS)];
     }
 
-    private int takeChip() {
-        if (texts.readChip(draft) != NONE) {
-            return NONE;
-        }
+    private int takeDraft() {
         Chip old = chip;
         chip = draft;
         draft = old;
@@ -509,10 +509,7 @@ public final class SpeedDesk {
         return chip.clusters;
     }
 
-    private int takeScript() {
-        if (scriptCount >= MOST_SCRIPTS || texts.readScript(spareScript()) != NONE) {
-            return NONE;
-        }
+    private int takeSpareScript() {
         tape.length = 0;
         scriptCount++;
         return scriptCount - 1;
@@ -590,9 +587,8 @@ public final class SpeedDesk {
         return NONE;
     }
 
-    /** The tape told the asker, so it is used up if the act is done. */
-    private int doOrRefuseAsker(Step step) {
-        int answer = doOrRefuse(step);
+    /** The tape told the asker, so it is used up if the act was done. */
+    private int useUpTapeFor(int answer) {
         if (answer != NONE) {
             tape.length = 0;
         }
@@ -1043,7 +1039,7 @@ public final class SpeedDesk {
         }
 
         boolean hasPoint(int cluster, int point) {
-            return hasCluster(cluster) && point >= 0 && point < points[cluster];
+            return cluster >= 0 && cluster < clusters && point >= 0 && point < points[cluster];
         }
 
         boolean hasCore(int core) {
@@ -1100,7 +1096,7 @@ public final class SpeedDesk {
 
         /** The first point that is so fast, NONE if none is. */
         int firstPointFor(int cluster, int needed) {
-            int count = hasCluster(cluster) ? points[cluster] : 0;
+            int count = cluster >= 0 && cluster < clusters ? points[cluster] : 0;
             for (int point = 0; point < count; point++) {
                 if (speed[cluster][point] >= needed) {
                     return point;
@@ -1409,19 +1405,32 @@ public final class SpeedDesk {
 
         /** The energy used. */
         int passMany(Chip chip, State state, int ticks) {
-            int used = 0;
+            int energyBefore = state.energy;
             for (int i = 0; i < ticks; i++) {
-                used += passOne(chip, state);
+                release(chip, state);
+                int used = wakeCores(chip, state);
+                for (int cluster = 0; cluster < chip.clusters; cluster++) {
+                    goTowards(chip, state, cluster, wantOf(chip, state, cluster));
+                }
+                for (int core = 0; core < chip.cores; core++) {
+                    used += work(chip, state, core);
+                }
+                fadeLoads(chip, state);
+                state.heat += used - cut(state.heat, chip.rules[COOL]);
+                state.energy += used;
+                state.time++;
             }
-            return used;
+            return state.energy - energyBefore;
         }
 
         int needOf(Chip chip, State state, int cluster) {
             int greatest = 0;
             for (int core = 0; core < chip.cores; core++) {
-                if (chip.clusterOf[core] == cluster) {
-                    greatest = Math.max(greatest, loadOn(chip, state, core));
+                int sum = 0;
+                for (int task = 0; task < chip.tasks; task++) {
+                    sum += state.coreOf[task] == core ? state.load[task] : 0;
                 }
+                greatest = chip.clusterOf[core] == cluster ? Math.max(greatest, sum) : greatest;
             }
             return roundedUp(greatest * chip.top * (100 + chip.rules[MARGIN]), 100 * LOAD_UNIT);
         }
@@ -1437,22 +1446,6 @@ public final class SpeedDesk {
         int speedOf(Chip chip, State state, int cluster) {
             int point = chip.hasCluster(cluster) ? state.point[cluster] : NONE;
             return chip.hasPoint(cluster, point) ? chip.speed[cluster][point] : 0;
-        }
-
-        private int passOne(Chip chip, State state) {
-            release(chip, state);
-            int used = wakeCores(chip, state);
-            for (int cluster = 0; cluster < chip.clusters; cluster++) {
-                choosePoint(chip, state, cluster);
-            }
-            for (int core = 0; core < chip.cores; core++) {
-                used += work(chip, state, core);
-            }
-            fadeLoads(chip, state);
-            state.heat += used - cut(state.heat, chip.rules[COOL]);
-            state.energy += used;
-            state.time++;
-            return used;
         }
 
         private void release(Chip chip, State state) {
@@ -1491,8 +1484,7 @@ public final class SpeedDesk {
             return chip.wake[cluster];
         }
 
-        private void choosePoint(Chip chip, State state, int cluster) {
-            int want = wantOf(chip, state, cluster);
+        private void goTowards(Chip chip, State state, int cluster, int want) {
             int point = state.point[cluster];
             if (want > point) {
                 point = want;
@@ -1565,14 +1557,6 @@ public final class SpeedDesk {
             for (int task = 0; task < chip.tasks; task++) {
                 state.load[task] = (7 * state.load[task] + cut(done[task] * LOAD_UNIT, chip.top)) / 8;
             }
-        }
-
-        private int loadOn(Chip chip, State state, int core) {
-            int sum = 0;
-            for (int task = 0; task < chip.tasks; task++) {
-                sum += state.coreOf[task] == core ? state.load[task] : 0;
-            }
-            return sum;
         }
     }
 
@@ -1861,7 +1845,7 @@ public final class SpeedDesk {
                 case START:
                     return resume(chip, state, first);
                 default:
-                    return standBest(chip, state);
+                    return planner.findBest(chip, state) ? standBest(chip, state) : NONE;
             }
         }
 
@@ -1963,9 +1947,6 @@ public final class SpeedDesk {
         }
 
         private int standBest(Chip chip, State state) {
-            if (!planner.findBest(chip, state)) {
-                return NONE;
-            }
             int moved = movedForBest(chip, state);
             System.arraycopy(planner.best, 0, state.coreOf, 0, MOST_TASKS);
             return moved;
