@@ -1,15 +1,37 @@
+import java.io.IOException;
+import java.nio.file.Files;
+import java.nio.file.Path;
 import java.util.NoSuchElementException;
 
 /** What the tests share: counts wrong answers and feeds texts. */
 final class Checks {
+    private static final Path DOCUMENT = Path.of("../shared/DOC.md");
     private int wrong;
     private int made;
+    private String sentence = "";
+
+    /** The sentence of the document by which the answers from here on are due. */
+    void says(String quoted) {
+        sentence = "\"" + quoted + "\": ";
+        // a notice only: the tests hold the program, not the document's wording
+        if (!document().contains(quoted)) {
+            System.out.println("the document has no words " + sentence);
+        }
+    }
+
+    private static String document() {
+        try {
+            return Files.readString(DOCUMENT);
+        } catch (IOException e) {
+            return "";
+        }
+    }
 
     void due(String call, long got, long want) {
         made++;
         if (got != want) {
             wrong++;
-            System.out.println(call + " answered " + got + ", due is " + want);
+            System.out.println(sentence + call + " answered " + got + ", due is " + want);
         }
     }
 
