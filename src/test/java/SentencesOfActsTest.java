@@ -503,6 +503,7 @@ public final class SentencesOfActsTest {
 
     private static void yearsDraws() {
         CHECKS.says("x, at first the seed, becomes x times 6364136223846793005 and 1442695040888963407 (64 bits, going round); a draw of j: (x shifted right by 33, without sign) modulo j.");
+        CHECKS.says("a draw of 8: 0 to 3: a draw of 5 and 1: so many TICKS; 4, 5: a draw of TASKS, of all CORES: MOVED; 6: a draw of TASKS: STOPPED, if it is not, else STARTED; 7: SETTLE");
         long[] seeds = {0L, 1L, -1L, Long.MAX_VALUE, Long.MIN_VALUE, 1234567890123456789L};
         int[][][] logs = {
             {{0, 3, 3}, {1, 1, 3}, {0, 1, 4}, {0, 5, 9}, {6, 1, 9}},

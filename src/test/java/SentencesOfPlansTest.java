@@ -319,6 +319,7 @@ public final class SentencesOfPlansTest {
     }
 
     private static void raceBounds() {
+        CHECKS.says("RACE on a CLUSTER, of work w (1 .. 9,999) in n TICKS (1 .. 99)");
         CHECKS.says("RACE: 0 by the last POINT, 1 slowly (NONE: not done in time), 2 which is less (NONE: neither is done). HIDDEN: no such CLUSTER, out of bounds.");
         SpeedDesk desk = Checks.chip("cluster a 1 99 0;point a 99 99");
         CHECKS.row("9,801 in 99", race(desk, 0, 9801, 99), 980100, 980100, 0);

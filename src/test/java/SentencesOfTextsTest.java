@@ -230,6 +230,14 @@ public final class SentencesOfTextsTest {
         bounds(1, "stop #", 0, 9);
         bounds(1, "start #", 0, 9);
         script("ask bob 0 9 0", -1);
+        CHECKS.says("CORES, POINTS and TASKS and CLUSTERS are numbered from 0");
+        SpeedDesk desk = Checks.chip("cluster a 1 0 0;cluster b 1 0 0;point a 9 1;point b 1 1;point b 2 1;task t 1 1;task u 1 1");
+        Checks.script(desk, "move 1 1;move 0 1;move 0 0;ask bob 1 1 1;ask bob 0 0 0;drop bob 1;stop 1;stop 0;start 0");
+        CHECKS.row("the first and the last", new int[] {desk.run(0, 0), desk.perform(0), desk.task(0, 2), desk.task(1, 2), desk.all(5), desk.asked(0, 0)}, -1, 9, 0, 1, 2, 0);
+        Checks.script(desk, "move 2 0");
+        Checks.script(desk, "move 0 2");
+        Checks.script(desk, "ask bob 2 0 0");
+        CHECKS.row("one more than the last", new int[] {desk.run(1, 0), desk.run(2, 0), desk.run(3, 0), desk.perform(1), desk.perform(2), desk.perform(3)}, 0, 0, 0, 0, 0, 0);
     }
 
     private static void words() {
@@ -454,6 +462,10 @@ public final class SentencesOfTextsTest {
             -1, -1, -1000000, -1, -1, -1, -1, -1, -1000000, -1, -1, -1, -1, -1000000, -1, -1, -1, -1000000, -1000000, -1, -1000000, -1, -1);
         CHECKS.clusterThrows(desk, 0, 0);
         CHECKS.due("the tape is empty", desk.fault(2), 0);
+        CHECKS.says("`NONE = -1`: None; refused.");
+        CHECKS.due("NONE", SpeedDesk.NONE, -1);
+        CHECKS.says("`HIDDEN = -1000000`: Not told.");
+        CHECKS.due("HIDDEN", SpeedDesk.HIDDEN, -1000000);
     }
 
     /** The asker on the tape, as asking tells it back. */

@@ -573,6 +573,7 @@ public final class SentencesOfTicksTest {
         SpeedDesk desk = new SpeedDesk();
         CHECKS.row("no chip", new int[] {desk.tick(1), desk.tick(0), desk.tick(61), desk.status(0), desk.status(1)}, -1, -1, -1, 3, 0);
         desk = at("cluster a 1 0 0;point a 9 1;task t 2 1", 9939);
+        CHECKS.says("By hand: TICKS (1 to 60)");
         int refused = 0;
         for (int n : new int[] {0, 61, -1, 200, Integer.MAX_VALUE, Integer.MIN_VALUE}) {
             refused++;
